@@ -601,6 +601,13 @@ public final class PromisesTest {
         due("person 6", x.comes(0, 6), BEYOND);
         due("person -1", x.comes(0, -1), BEYOND);
         due("status(3)", x.status(3), 2);
+        // one has its hands full with a quarrel and a bridge, until the bridge is finished
+        UnfinishedFair late = withSkills(1, 0, 0, 1, 0, 0);
+        put(late, QUARREL, 24, 5, 1);
+        put(late, BRIDGE, 3, 0, 0);
+        put(late, BOAT, 9, 2, 2);
+        put(late, QUARREL, 8, 0, 4);
+        due("in 200", late.comes(2, 0), 200);
     }
 
     private static void all() {
