@@ -167,6 +167,10 @@ public final class PromisesTest {
         due("asked at dust 7", x.of(1, 5), 1);
         x.set(1, 3, 6);
         due("asked at dust 6", x.of(1, 5), 2);
+        x.set(LETTER, 1, 9);
+        due("letter asks at 9", x.of(LETTER, 5), 8);
+        x.set(LETTER, 1, 10);
+        due("letter asks at 10", x.of(LETTER, 5), 9);
         due("thing -1", x.of(-1, 0), BEYOND);
         due("thing 6", x.of(6, 0), BEYOND);
         due("what -1", x.of(0, -1), BEYOND);
@@ -342,6 +346,12 @@ public final class PromisesTest {
         }
         quarrels.turn(0, THING);
         due("two are busy", quarrels.goesTo(0), 2);
+
+        UnfinishedFair first = withSkills(9, 8, 0, 0, 0, 0);
+        put(first, THING, 0, 0, 0);
+        put(first, THING, 0, 0, 0);
+        first.thing(THING, 0);
+        due("thing 0 is held, too", first.goesTo(2), 1);
     }
 
     private static void years() {
@@ -680,6 +690,12 @@ public final class PromisesTest {
         UnfinishedFair late = slowBridge(63, 0);
         due("in 110", late.kind(0), NONE);
         due("status(3)", late.status(3), 1);
+        // with one from now on: it goes on in the years 1, 2, 12, 13, .. 100, 101
+        UnfinishedFair held = slowBridge(62, 0);
+        held.set(0, 2, 0);
+        due("in 100", held.kind(0), BRIDGE);
+        held.set(0, 1, 61);
+        due("in 101", held.kind(0), NONE);
         UnfinishedFair quarrel = withSkills(20, 20, 20, 20, 20, 20);
         put(quarrel, THING, 98, -1, 0);
         quarrel.set(0, 2, 0);
@@ -694,6 +710,7 @@ public final class PromisesTest {
         due("in 60", x.zeal(0, 60, 1), 6);
         due("not in 5", x.zeal(0, 5, 1), NONE);
         due("not 2", x.zeal(0, 60, 2), NONE);
+        due("in 1", x.zeal(0, 1, 0), 0);
         due("v 0", x.zeal(0, 6, 0), 0);
         x.person(0, 2, 998);
         due("v 999", x.zeal(0, 6, 999), 6);
@@ -747,6 +764,10 @@ public final class PromisesTest {
         x.person(5, 2, 2);
         due("had made", x.maker(100), 5);
         due("made still", x.now(4), 2);
+        for (int p = 4; p >= 0; p--) {
+            x.person(p, 2, 20 - p);
+            due("maker " + p, x.maker(0), p);
+        }
         due("n -1", x.maker(-1), BEYOND);
         due("n 101", x.maker(101), BEYOND);
     }
@@ -871,7 +892,8 @@ public final class PromisesTest {
             {"thing 9 byzantium 1", 8}, {"zeal 1 1;boat 100", 14}, {"thing 9,boat 1", 7},
             {"thing 9 \u0000", 8}, {"thing 9 \u00e9", 8}, {"boat 1 zeal 1 1", 7}, {"jersey 1 by 1 boat", 14},
             {"skill 1", 7}, {"thing 9 skill", 8}, {"{", 0}, {"`", 0}, {"thing /", 6}, {"thing :", 6},
-            {"letter 3 dust;", 13}, {"letter 3 by;", 11}, {"quarrel;", 7}};
+            {"letter 3 dust;", 13}, {"letter 3 by;", 11}, {"quarrel;", 7}, {"xhing 3", 0}, {"thinx 3", 0},
+            {"thing 3 cy 1", 8}, {"thing 3 rust 1", 8}, {"real 1 1", 0}, {"thing by 1", 6}, {"thing dust 1", 6}};
         for (Object[] fault : faults) {
             UnfinishedFair x = new UnfinishedFair();
             x.thing(BOAT, 3);
@@ -888,6 +910,15 @@ public final class PromisesTest {
         due("skill stays", x.personOf(0, 0), 5);
         due("zeal stays", x.personOf(1, 1), 4);
         due("no thing", x.count(0), 0);
+        due("120 blanks", tell(x, " ".repeat(120)), -121);
+        due("120 letters", tell(x, "a".repeat(120)), -1);
+        due("120 digits", tell(x, "thing" + "0".repeat(115)), 1);
+        due("no more than was fed", tell(x, "thing 1 "), 1);
+        due("no old digits", tell(x, "thing 2"), 1);
+        due("no old bytes", tell(x, "thin"), -1);
+        due("dust 0", tell(x, "thing 3 by 0 dust 0"), 1);
+        due("zeros and ones", x.now(3), 6);
+        due("with 0", x.of(3, 2), 0);
     }
 
     private static void commonIsFull() {
@@ -1051,6 +1082,9 @@ public final class PromisesTest {
             due("on " + n, x.write(3, n, 0), done[n]);
         }
         due("now", x.of(0, 1), 10);
+        x.sheet(2, 8, 40);
+        due("forty", x.book(2, 0), 40);
+        due("on 39", x.write(2, 39, 0), x.on(0, 39, 0));
         x.sheet(3, 8, 0);
         due("none", x.book(3, 0), 0);
         due("sheet 4", x.book(4, 0), BEYOND);
