@@ -224,6 +224,8 @@ public final class BestEdgesTest {
         Edge.due("one at 99 can be", alike.drop(1), 0);
         alike.set(0, 2, -1);
         Edge.due("one on the common can't be", alike.drop(1), 2);
+        Edge.changesNothing(() -> undone(3), "DONE of all is 0", x -> x.drop(30), 0);
+        Edge.changesNothing(() -> undone(1), "one alone", x -> x.drop(1), 0);
         Edge.sentence("BEYOND. NONE: none can be.");
         Edge.changesNothing(UnfinishedFair::new, "nothing", x -> x.drop(1), Edge.NONE);
         Edge.changesNothing(BestEdgesTest::finishedAndNot, "on the common or finished", x -> x.drop(30), Edge.NONE);
@@ -231,6 +233,15 @@ public final class BestEdgesTest {
         Edge.due("n 31 with none", new UnfinishedFair().drop(31), Edge.BEYOND);
         Edge.sentence("ON n YEARS (1 to 30)");
         leftAndTakenLater();
+    }
+
+    /** Things with one who has no skill. */
+    private static UnfinishedFair undone(int things) {
+        UnfinishedFair x = Edge.allWithSkill(0);
+        for (int i = 0; i < things; i++) {
+            Edge.put(x, Edge.THING, 0, 5, 0);
+        }
+        return x;
     }
 
     /** Some that can't be left, then things with 0, 1 and 2 that go on by 10, 6 and 3. */

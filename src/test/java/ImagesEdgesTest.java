@@ -224,6 +224,7 @@ public final class ImagesEdgesTest {
             Edge.due("status(" + which + ")", x.status(which), 30);
         }
         Edge.due("status(-1)", x.status(-1), 210);
+        Edge.sentence("An object is used for at most 512 calls after it has been made");
         UnfinishedFair tired = new UnfinishedFair();
         for (int i = 0; i < 510; i++) {
             tired.undo();

@@ -270,6 +270,30 @@ public final class TextEdgesTest {
         Edge.due("zeal", x.personOf(1, 1), 0);
     }
 
+    /** Each letter of a word in turn is the next one, the one before, and none. */
+    private static void otherWords(String before, String word, String behind) {
+        for (int i = 0; i < word.length(); i++) {
+            String head = before + word.substring(0, i);
+            String tail = word.substring(i + 1) + behind;
+            fault(head + (char) (word.charAt(i) == 'z' ? 'a' : word.charAt(i) + 1) + tail, before.length());
+            fault(head + (char) (word.charAt(i) == 'a' ? 'z' : word.charAt(i) - 1) + tail, before.length());
+            fault(head + tail, before.length());
+        }
+    }
+
+    private static void anotherWord() {
+        Edge.sentence("(a NUMBER that may not be, another WORD, a byte that begins no TOKEN, the name of a KIND for a 9th: its own)");
+        for (String name : new String[] {"thing", "boat", "jersey", "quarrel", "bridge", "letter"}) {
+            otherWords("", name, " 1");
+            otherWords("zeal 1 1; ", name, " 1");
+        }
+        otherWords("", "skill", " 1 1");
+        otherWords("", "zeal", " 1 1");
+        otherWords("boat 1 ", "by", " 1");
+        otherWords("boat 1 ", "dust", " 1");
+        otherWords("boat 1 by 1 ", "dust", " 1");
+    }
+
     private static void firstFault() {
         Edge.sentence("FAULT: the place (from 0) of the first byte of the first TOKEN that can't stand there");
         fault("thing 100 by 6 dust 1000", 6);
@@ -341,6 +365,7 @@ public final class TextEdgesTest {
         signsAndBlanks();
         items();
         traits();
+        anotherWord();
         firstFault();
         ninth();
         mostItems();

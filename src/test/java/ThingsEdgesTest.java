@@ -297,6 +297,44 @@ public final class ThingsEdgesTest {
         }
     }
 
+    private static void quotients() {
+        Edge.sentence("Quotients are cut.");
+        for (int skill = 0; skill <= 20; skill++) {
+            int half = 0;
+            while (2 * (half + 1) <= skill) {
+                half++;
+            }
+            dueBy(0, Edge.BOAT, skill, 0, 0, half);
+        }
+        for (int dust : new int[] {0, 1, 9, 10, 11, 99, 100, 109, 989, 990, 998, 999}) {
+            dueBy(1, Edge.BRIDGE, 1, 0, dust, 1 + (dust - dust % 10) / 10);
+        }
+        for (int done = 0; done <= 100; done++) {
+            dueOf(5, Edge.LETTER, done, 0, 8 + (done - done % 10) / 10);
+        }
+    }
+
+    private static void howFar() {
+        Edge.sentence("each DONE (0 to 100 hundredths; 100: finished), WITH one of PEOPLE, or on the common (-1; at first)");
+        for (int done : new int[] {0, 1, 98, 99, 100}) {
+            UnfinishedFair x = Edge.full();
+            x.set(7, 1, done);
+            Edge.due("finished at " + done, x.now(1), done == 100 ? 128 : 0);
+            Edge.due("counted at " + done, x.count(2), done == 100 ? 1 : 0);
+            Edge.due("unfinished at " + done, x.personOf(2, 4), done == 100 ? 7 : 8);
+            Edge.due("left at " + done, x.leave(7), done == 100 ? Edge.STATE : 2);
+        }
+        for (int with = -1; with <= 5; with++) {
+            UnfinishedFair x = Edge.full();
+            x.set(7, 2, with);
+            Edge.due("with " + with, x.of(7, 2), with);
+            Edge.due("on the common, with " + with, x.now(2), with == -1 ? 128 : 0);
+            for (int p = 0; p <= 5; p++) {
+                Edge.due(p + " has, with " + with, x.personOf(p, 3), (p == 2 ? 127 : 0) + (p == with ? 128 : 0));
+            }
+        }
+    }
+
     // ---- promises 7 to 9
 
     private static void set() {
@@ -459,6 +497,12 @@ public final class ThingsEdgesTest {
         Edge.due("one and the next", x.goesTo(0), 1);
         x.set(2, 2, 1);
         Edge.due("of three, one has one again", x.goesTo(0), 3);
+        UnfinishedFair more = Edge.withSkills(20, 5, 0, 0, 0, 0);
+        more.thing(Edge.THING, 0);
+        for (int held = 1; held <= 7; held++) {
+            Edge.put(more, Edge.THING, 0, 0, 0);
+            Edge.due("one has " + held, more.goesTo(0), held < 2 ? 0 : 1);
+        }
         UnfinishedFair poor = Edge.allWithSkill(20);
         poor.thing(Edge.QUARREL, 0);
         Edge.due("bid 0, asked 1", poor.goesTo(0), Edge.NONE);
@@ -477,6 +521,8 @@ public final class ThingsEdgesTest {
         tires();
         bid();
         asked();
+        quotients();
+        howFar();
         set();
         turn();
         as();

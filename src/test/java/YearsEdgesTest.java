@@ -208,6 +208,13 @@ public final class YearsEdgesTest {
         dueThing(three, 2, 1, 0, 1);
         dueThing(three, 3, 1, 0, 1);
         dueThing(three, 4, 1, 1, 1);
+        UnfinishedFair more = Edge.withSkills(20, 10, 0, 0, 0, 0);
+        more.thing(Edge.THING, 1);
+        for (int i = 0; i < 3; i++) {
+            Edge.put(more, Edge.THING, 5, 0, 0);
+        }
+        more.years(1);
+        dueThing(more, 0, 1, 1, 1);
         UnfinishedFair freed = Edge.withSkills(20, 10, 0, 0, 0, 0);
         freed.thing(Edge.THING, 1);
         Edge.put(freed, Edge.THING, 80, 0, 0);
